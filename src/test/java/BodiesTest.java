@@ -5,7 +5,7 @@ public final class BodiesTest {
     private static final Check CHECK = new Check();
 
     /** A body with one feature of a box. */
-    private static Solidhearth box(int x, int y, int z, int dx, int dy, int dz) {
+    static Solidhearth box(int x, int y, int z, int dx, int dy, int dz) {
         Solidhearth made = new Solidhearth();
         made.addFeature('b', x, y, z);
         made.setSize(0, dx, dy, dz);
@@ -82,6 +82,38 @@ public final class BodiesTest {
         CHECK.is("through the space", row.volume(), 8);
         add(row, 'p', new int[] {0, -7, 0}, new int[] {1, 0, 0});
         CHECK.is("across the space", row.has(3, 0, 7), true);
+    }
+
+    /** Far ways must not come up elsewhere, as shifts by 64 would. */
+    private static void farPatterns() {
+        Solidhearth x = box(2, 2, 2, 1, 1, 1);
+        x.addFeature('p', 100, 101, 102);
+        for (int axis = 0; axis < 3; axis++) {
+            for (int by : new int[] {1, 2, 4, 16, -1, -2, -4, -16}) {
+                x.setNumber(axis, by, '*', 4);
+                CHECK.is("by " + 4 * by + " along " + axis, x.volume(), by == 1 ? 2 : 1);
+            }
+            x.setNumber(axis, 0, '+', 0);
+        }
+    }
+
+    /** A way through four layers, each there and back, as one piece. */
+    private static void aLongWay() {
+        Solidhearth x = box(0, 0, 0, 8, 1, 1);
+        add(x, 'p', new int[] {0, 2, 0}, new int[] {3, 1, 1});
+        x.addFeature('b', 7, 1, 0);
+        x.addFeature('b', 0, 3, 0);
+        x.addFeature('b', 7, 5, 0);
+        add(x, 'p', new int[] {0, 0, 2}, new int[] {3, 1, 1});
+        x.addFeature('b', 0, 6, 1);
+        x.addFeature('b', 0, 0, 3);
+        CHECK.is("all but the last layer", x.bodies(), 2);
+        x.addFeature('b', 0, 6, 5);
+        CHECK.is("volume", x.volume(), 4 * 35 + 3);
+        CHECK.is("one piece", x.bodies(), 1);
+        CHECK.is("without holes", x.euler(), 2);
+        x.addFeature('c', 0, 3, 4);
+        CHECK.is("cut in the middle", x.bodies(), 2);
     }
 
     private static void hollows() {
@@ -233,6 +265,8 @@ public final class BodiesTest {
         boxes();
         mirrors();
         patterns();
+        farPatterns();
+        aLongWay();
         hollows();
         pushes();
         names();

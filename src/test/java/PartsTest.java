@@ -169,6 +169,24 @@ public final class PartsTest {
         CHECK.is("along both", x.clashes(0, 1), 1);
     }
 
+    /** Shapes far from one another share nothing, however the ways divide by 8 or 64. */
+    private static void clashingFromAfar() {
+        Solidhearth x = withParts(0, 0);
+        x.addFeature('b', 0, 0, 0);
+        x.setSize(0, 8, 8, 8);
+        for (int axis = 0; axis < 3; axis++) {
+            for (int by = 1; by <= 140; by++) {
+                x.drag(by % 2, axis, by % 2 == 0 ? -1 : 1);
+                CHECK.is(by + " apart along " + axis, x.clashes(0, 1), by < 8 ? 64 * (8 - by) : 0);
+            }
+            x.drag(0, axis, 10);
+            for (int by = 0; by < 8; by++) {
+                x.drag(0, axis, by < 6 ? 20 : by == 6 ? 10 : 0);
+            }
+            CHECK.is("together again along " + axis, x.clashes(1, 0), 512);
+        }
+    }
+
     private static void freezing() {
         Solidhearth x = withParts(0, 0);
         x.addFeature('b', 0, 0, 0);
@@ -202,6 +220,7 @@ public final class PartsTest {
         dragging();
         clashing();
         clashingAtTheRim();
+        clashingFromAfar();
         freezing();
         CHECK.end();
     }

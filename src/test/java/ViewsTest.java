@@ -2,15 +2,8 @@
 public final class ViewsTest {
     private static final Check CHECK = new Check();
 
-    private static Solidhearth box(int x, int y, int z, int dx, int dy, int dz) {
-        Solidhearth made = new Solidhearth();
-        made.addFeature('b', x, y, z);
-        made.setSize(0, dx, dy, dz);
-        return made;
-    }
-
     private static void depths() {
-        Solidhearth x = box(1, 2, 4, 1, 1, 1);
+        Solidhearth x = BodiesTest.box(1, 2, 4, 1, 1, 1);
         CHECK.is("along 0 up", x.depth(0, true, 2, 4), 1);
         CHECK.is("along 0 down", x.depth(0, false, 2, 4), 6);
         CHECK.is("along 1 up", x.depth(1, true, 1, 4), 2);
@@ -41,22 +34,22 @@ public final class ViewsTest {
 
     private static void lines() {
         CHECK.is("nothing", new Solidhearth().lines(0, true), 0);
-        Solidhearth inside = box(2, 2, 2, 2, 3, 4);
+        Solidhearth inside = BodiesTest.box(2, 2, 2, 2, 3, 4);
         CHECK.is("round the sides along 0", inside.lines(0, true), 14);
         CHECK.is("along 1", inside.lines(1, false), 12);
         CHECK.is("along 2", inside.lines(2, true), 10);
-        Solidhearth corner = box(7, 0, 7, 1, 1, 1);
+        Solidhearth corner = BodiesTest.box(7, 0, 7, 1, 1, 1);
         CHECK.is("two sides at the rim", corner.lines(0, true), 4);
         CHECK.is("and from behind", corner.lines(0, false), 4);
-        CHECK.is("all round the space", box(-1, -1, -1, 20, 20, 20).lines(1, true), 32);
-        Solidhearth stairs = box(0, 0, 0, 2, 1, 1);
+        CHECK.is("all round the space", BodiesTest.box(-1, -1, -1, 20, 20, 20).lines(1, true), 32);
+        Solidhearth stairs = BodiesTest.box(0, 0, 0, 2, 1, 1);
         stairs.addFeature('b', 0, 0, 1);
         CHECK.is("a step seen from above", stairs.lines(2, false), 7);
         CHECK.is("but not from below", stairs.lines(2, true), 6);
     }
 
     private static void soundness() {
-        Solidhearth x = box(0, 0, 0, 3, 3, 3);
+        Solidhearth x = BodiesTest.box(0, 0, 0, 3, 3, 3);
         x.addFeature('e', 0, 1, 2);
         x.addFeature('c', 1, 1, 1);
         x.addPart(1, 2, 3);
