@@ -71,6 +71,16 @@ public final class FaceTest {
         for (Field field : Solidhearth.class.getDeclaredFields()) {
             check.is("the field " + field.getName() + " is private", Modifier.isPrivate(field.getModifiers()), true);
         }
+        for (Class<?> inner : Solidhearth.class.getDeclaredClasses()) {
+            int marks = inner.getModifiers();
+            check.is(inner.getName() + " is private or package-visible, and static", Modifier.isStatic(marks)
+                    && !Modifier.isPublic(marks) && !Modifier.isProtected(marks), true);
+            for (Method method : inner.getDeclaredMethods()) {
+                boolean isPrivate = Modifier.isPrivate(method.getModifiers());
+                check.is("an inner private " + method.getName(),
+                        isPrivate && openNames.contains(method.getName()), false);
+            }
+        }
         Constructor<?>[] makers = Solidhearth.class.getDeclaredConstructors();
         check.is("constructors", makers.length, 1);
         check.is("it is public", Modifier.isPublic(makers[0].getModifiers()), true);

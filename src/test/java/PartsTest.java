@@ -211,6 +211,106 @@ public final class PartsTest {
         CHECK.fails("part -1", IndexOutOfBoundsException.class, () -> x.freeze(-1, false));
     }
 
+    /** "Parts that are tied along an axis, also through others, move together", all six of them at most. */
+    private static void allAreTied() {
+        Solidhearth x = withParts(0, 1, 2, 3, 4, 5);
+        for (int part = 1; part < 6; part++) {
+            CHECK.is("fits already", x.mate(0, part, part - 1, 1), 0);
+        }
+        CHECK.is("all move", x.drag(3, 0, -20), 6);
+        CHECK.is("moves", moves(x, 0, 6), "-20 -19 -18 -17 -16 -15");
+        CHECK.is("all move to the ground", x.mate(0, 5, -1, 20), 6);
+        CHECK.is("moves at the ground", moves(x, 0, 6), "15 16 17 18 19 20");
+        CHECK.is("along the other axes none moves", moves(x, 1, 6), "0 0 0 0 0 0");
+        CHECK.is("freedoms", x.freedoms(), 12);
+        Solidhearth one = withParts(7);
+        CHECK.is("none is tied", one.drag(0, 0, 1), 1);
+        CHECK.is("to the ground, as it stands", one.mate(0, 0, -1, 8), 0);
+        one.mate(1, 0, -1, -20);
+        one.mate(2, 0, -1, 20);
+        CHECK.is("no freedom is left", one.freedoms(), 0);
+        CHECK.is("the least distance", one.moved(0, 1), -20);
+        CHECK.is("the greatest distance", one.moved(0, 2), 20);
+    }
+
+    /** "If these are tied to the ground, those of the other part do", the other way round. */
+    private static void theOtherPartMoves() {
+        Solidhearth x = withParts(0, 3, 5, 9);
+        x.mate(0, 0, -1, 0);
+        x.mate(0, 2, 3, -4);
+        CHECK.is("the others move to lower numbers", x.mate(0, 0, 3, 20), 2);
+        CHECK.is("moves", moves(x, 0, 4), "0 3 -24 -20");
+        CHECK.is("one moves to greater ones", x.mate(0, 0, 1, -20), 1);
+        CHECK.is("moves again", moves(x, 0, 4), "0 20 -24 -20");
+        Solidhearth fit = withParts(0, 3);
+        fit.mate(0, 0, -1, 0);
+        CHECK.is("it fits already", fit.mate(0, 0, 1, -3), 0);
+        CHECK.fails("and holds all the same", UnsupportedOperationException.class, () -> fit.drag(1, 0, 1));
+    }
+
+    private static void dragBy(Solidhearth x, int[] by) {
+        for (int axis = 0; axis < 3; axis++) {
+            x.drag(0, axis, by[axis]);
+        }
+    }
+
+    /** One cell, frozen, and another one that is the body: they clash at one move only, and along no other. */
+    private static void clashingOfOneCell() {
+        int[][] cells = {{0, 0, 0}, {7, 7, 7}, {7, 0, 7}, {0, 7, 0}, {1, 2, 4}, {6, 5, 2}};
+        for (int[] one : cells) {
+            for (int[] two : cells) {
+                Solidhearth x = withParts(0, 0);
+                x.addFeature('b', one[0], one[1], one[2]);
+                x.freeze(0, true);
+                x.remove(0);
+                x.addFeature('b', two[0], two[1], two[2]);
+                int[] by = {two[0] - one[0], two[1] - one[1], two[2] - one[2]};
+                CHECK.is("before", x.clashes(0, 1), one == two ? 1 : 0);
+                dragBy(x, by);
+                CHECK.is("on one another", x.clashes(0, 1), 1);
+                CHECK.is("the other way", x.clashes(1, 0), 1);
+                for (int axis = 0; axis < 3; axis++) {
+                    for (int way = -1; way <= 1; way += 2) {
+                        x.drag(0, axis, way);
+                        CHECK.is("beside one another", x.clashes(0, 1) + x.clashes(1, 0), 0);
+                        x.drag(0, axis, -way);
+                    }
+                }
+            }
+        }
+    }
+
+    /** 7 apart is the last move at which full shapes share cells, in both ways. */
+    private static void clashingAtTheEdge() {
+        for (int axis = 0; axis < 3; axis++) {
+            for (int by : new int[] {-20, -16, -9, -8, -7, -1, 0, 1, 7, 8, 9, 16, 20}) {
+                Solidhearth x = withParts(0, 0);
+                x.addFeature('b', 0, 0, 0);
+                x.setSize(0, 8, 8, 8);
+                x.drag(0, axis, by);
+                int due = Math.max(0, 8 - Math.abs(by)) * 64;
+                CHECK.is(by + " along " + axis, x.clashes(0, 1), due);
+                CHECK.is(by + " along " + axis + ", the other way", x.clashes(1, 0), due);
+            }
+        }
+    }
+
+    /** "As it was when it was frozen", also if the body had no cells. */
+    private static void freezingNothing() {
+        Solidhearth x = withParts(0, 0);
+        x.freeze(0, true);
+        x.addFeature('b', 0, 0, 0);
+        x.setSize(0, 8, 8, 8);
+        CHECK.is("it has no cells", x.clashes(0, 1), 0);
+        x.freeze(0, false);
+        CHECK.is("all cells", x.clashes(0, 1), 512);
+        x.freeze(1, true);
+        x.setBar(0);
+        x.freeze(1, true);
+        x.setBar(1);
+        CHECK.is("frozen anew ahead of all", x.clashes(0, 1), 0);
+    }
+
     public static void main(String[] args) {
         adding();
         mating();
@@ -222,6 +322,11 @@ public final class PartsTest {
         clashingAtTheRim();
         clashingFromAfar();
         freezing();
+        allAreTied();
+        theOtherPartMoves();
+        clashingOfOneCell();
+        clashingAtTheEdge();
+        freezingNothing();
         CHECK.end();
     }
 }
