@@ -73,6 +73,10 @@ final class PlainModel {
         return row.size();
     }
 
+    int featureAt(int place) {
+        return row.get(place).number;
+    }
+
     int partCount() {
         return moves.size();
     }

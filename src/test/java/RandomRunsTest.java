@@ -1,15 +1,17 @@
+import java.util.Arrays;
 import java.util.Random;
 
 /** Long runs of calls, each answer of which must be that of the plain model. */
 public final class RandomRunsTest {
     private static final int RUNS = 400;
     private static final int CALLS = 512;
-    private static final String KINDS = "bbbcimphee?";
+    private static final String KINDS = "bbbbcimphheeee?";
     private final Random random;
     private final int run;
     private final Solidhearth made = new Solidhearth();
     private final PlainModel plain = new PlainModel();
     private final Check check;
+    private int calls;
 
     private RandomRunsTest(int run, Check check) {
         this.run = run;
@@ -38,18 +40,22 @@ public final class RandomRunsTest {
         if (luck < 5) {
             return near(100, 107);
         }
-        return luck == 5 ? near(-20, 20) : near(0, 7);
+        return luck == 5 ? near(-20, 20) : near(0, 6);
     }
 
     private int size() {
         int luck = below(20);
-        if (luck < 3) {
+        if (luck < 2) {
             return near(100, 107);
         }
-        return luck < 5 ? near(-20, 20) : near(1, 4);
+        return luck < 3 ? near(-20, 20) : near(1, 5);
     }
 
+    /** Mostly one that exists. */
     private int feature() {
+        if (plain.count() > 0 && below(8) > 0) {
+            return plain.featureAt(below(plain.count()));
+        }
         return near(0, Math.min(39, plain.highestNumber() + 1));
     }
 
@@ -62,14 +68,15 @@ public final class RandomRunsTest {
     }
 
     private void both(String told, Check.Call one, Check.Call other) {
+        calls++;
         check.is("run " + run + ": " + told, Check.outcome(one), Check.outcome(other));
     }
 
     private void callOne() {
         int kind = below(100);
-        if (kind < 50) {
-            edit(below(14));
-        } else if (kind < 65) {
+        if (kind < 45) {
+            edit(below(20));
+        } else if (kind < 58) {
             handleParts(below(6));
         } else {
             ask(below(20));
@@ -85,8 +92,10 @@ public final class RandomRunsTest {
             char op = "+-*+-*+-*/".charAt(below(10));
             both("setNumber(" + name + ", " + a + ", " + op + ", " + b + ")",
                     () -> made.setNumber(name, a, op, b), () -> plain.setNumber(name, a, op, b));
-        } else if (kind < 6) {
+        } else if (kind == 2) {
             addOne();
+        } else if (kind == 3) {
+            addFitting("bbccieeeh".charAt(below(9)));
         } else if (kind < 9) {
             int a = size();
             int b = size();
@@ -95,14 +104,14 @@ public final class RandomRunsTest {
                     () -> made.setSize(f, a, b, c), () -> plain.setSize(f, a, b, c));
         } else if (kind == 9) {
             both("remove(" + f + ")", () -> made.remove(f), () -> plain.remove(f));
-        } else if (kind == 10) {
-            int place = near(0, 11);
+        } else if (kind < 13) {
+            int place = near(0, Math.max(0, plain.count() - 1));
             both("move(" + f + ", " + place + ")", () -> made.move(f, place), () -> plain.move(f, place));
-        } else if (kind == 11) {
-            boolean off = below(2) == 0;
+        } else if (kind < 16) {
+            boolean off = below(3) == 0;
             both("putOff(" + f + ", " + off + ")", () -> made.putOff(f, off), () -> plain.putOff(f, off));
         } else {
-            int place = below(2) == 0 ? plain.count() : near(0, 12);
+            int place = below(3) > 0 ? plain.count() : near(plain.count() / 2, plain.count());
             both("setBar(" + place + ")", () -> made.setBar(place), () -> plain.setBar(place));
         }
     }
@@ -114,6 +123,34 @@ public final class RandomRunsTest {
         int c = sort == 'e' && below(8) > 0 ? near(0, 3) : term();
         both("addFeature(" + sort + ", " + a + ", " + b + ", " + c + ")",
                 () -> made.addFeature(sort, a, b, c), () -> plain.addFeature(sort, a, b, c));
+    }
+
+    /** Boxes large enough for what comes behind, slabs that cut them into pieces, and pushes of what is there. */
+    private void addFitting(char sort) {
+        int[] first = {below(4), below(4), below(4)};
+        int[] further = {2 + below(4), 2 + below(4), 2 + below(4)};
+        int along = below(3);
+        if (sort == 'c') {
+            Arrays.fill(first, 0);
+            Arrays.fill(further, 8);
+            first[along] = 1 + below(5);
+            further[along] = 1;
+        } else if (sort == 'i') {
+            Arrays.fill(first, 0);
+            Arrays.fill(further, 8);
+            further[along] = 5 + below(3);
+        } else if (sort == 'e') {
+            int ahead = plain.count() == 0 ? 0 : plain.featureAt(below(Math.min(3, plain.count())));
+            first = new int[] {ahead, below(6), 1 + below(3)};
+        }
+        int[] at = first;
+        int f = plain.highestNumber() + 1;
+        both("addFeature(" + sort + ", " + at[0] + ", " + at[1] + ", " + at[2] + ")",
+                () -> made.addFeature(sort, at[0], at[1], at[2]), () -> plain.addFeature(sort, at[0], at[1], at[2]));
+        both("setSize(" + f + ", " + further[0] + ", " + further[1] + ", " + further[2] + ")",
+                () -> made.setSize(f, further[0], further[1], further[2]),
+                () -> plain.setSize(f, further[0], further[1], further[2]));
+        both("state(" + f + ")", () -> made.state(f), () -> plain.state(f));
     }
 
     private void handleParts(int kind) {
@@ -208,7 +245,7 @@ public final class RandomRunsTest {
         }
     }
 
-    /** What is asked seldom, at the end of a run. */
+    /** What is asked seldom, at the end of a run, though the document leaves free what is answered so late. */
     private void askAll() {
         both("freedoms()", () -> made.freedoms(), () -> plain.freedoms());
         both("isSound()", () -> made.isSound(), () -> true);
@@ -228,7 +265,10 @@ public final class RandomRunsTest {
         Check check = new Check();
         for (int run = 0; run < RUNS; run++) {
             RandomRunsTest test = new RandomRunsTest(run, check);
-            for (int call = 0; call < CALLS; call++) {
+            for (int feature = 0; feature < run % 7; feature++) {
+                test.addFitting("bbceeh".charAt(feature));
+            }
+            while (test.calls < CALLS) {
                 test.callOne();
             }
             test.askAll();
